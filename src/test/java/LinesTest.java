@@ -139,6 +139,12 @@ public final class LinesTest {
         due("at the post", x.fast(0, 0, 0, -1), 0);
         due("go(5)", x.go(5), 0);
         due("PACE at the post", x.now(3), 0);
+        // At DISTANCE 1 it pulls with 1 * 99 / 10.
+        x = Checks.at("ship 4000 10;slow 0 0 0;wind 0;give 99;post 4500 50;");
+        Checks.put(x, 4500, 1);
+        x.fast(0, 0, 0, 0);
+        x.go(1);
+        due("DRIFT at DISTANCE 1", x.now(4), 9);
     }
 
     private static void parting() {
@@ -219,6 +225,14 @@ public final class LinesTest {
         x.put(1, 0);
         due("along alone", x.does(100, 0), 1);
         due("nothing", x.does(-15, 1), 0);
+        x.put(1, 1);
+        due("1 off, from 1", x.does(1, 1), 2 + 4 + 8);
+        due("1 off, from -1", x.does(-1, 1), 2 + 4 + 16);
+        x.put(0, 3999);
+        due("1 ahead", x.does(-15, 1), 1 + 4 + 16);
+        x.put(0, 4001);
+        due("1 astern", x.does(-15, 1), 2 + 4 + 16);
+        Checks.put(x, 4000, 0);
         x.put(2, -1000);
         due("bow off again", x.does(100, 0), 1 + 4 + 8);
         due("stern held", x.does(-100, 1), 1);

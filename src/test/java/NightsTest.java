@@ -142,6 +142,12 @@ public final class NightsTest {
         x.fast(1, 100, 0, 9999);
         // All: 600 * 21 / 22 is 572, of 900 63; 600 / 22 is 27, of 100 27. Then 600 of 900 is 66, of 100 600.
         orderIs("shares", x, 66, 1, 0);
+        // The stern's post of 100 is the weak one, from the beginning on: 572.
+        x.cast(0);
+        x.cast(1);
+        x.fast(0, -100, 0, 9999);
+        x.fast(1, 100, 1, 9999);
+        orderIs("shares the other way", x, 572, 0, 1);
         // No wind, no STRAIN: the lesser number ahead.
         x = Checks.at("wind 0;post 1 1;post 2 2;");
         x.fast(5, 0, 0, 0);

@@ -94,6 +94,15 @@ public final class TriedTest {
         due("pulled ahead", x.astern(), 10);
         x.veer(0, 4000);
         due("not pulled", x.astern(), 0);
+        // At PACE 0 the engine is stopped at once: E -2 would be 100 astern. At PACE 1 it goes astern and walks her.
+        x = Checks.at("gap 0 9999;ship 4000 10;screw 50 0;wheel 0;slow 0 0 0;wind 0;");
+        Checks.put(x, 5000, 0, 0, 0);
+        due("PACE 0", x.astern(), 0);
+        x = Checks.at("gap 0 9999;ship 4000 1;screw 1 99;wheel 0;slow 0 0 0;wind 0;fender 0;");
+        Checks.put(x, 5000, 100, 0, 0);
+        due("PACE 0 walks nothing", x.astern(), 0);
+        x.put(3, 1);
+        due("PACE 1 walks", x.astern(), NONE);
         // R is 0 while one goes astern.
         x = Checks.at("gap 0 9999;ship 4000 10;screw 10 0;wheel 99;slow 0 0 0;wind 0;");
         Checks.put(x, 5000, 0, 0, 300, 0, 0, 0, 3);
@@ -112,7 +121,16 @@ public final class TriedTest {
         x.put(0, 4500);
         due("room enough", x.off(), 120);
         due("nothing went by", x.now(9), 0);
+        // 1 astern a second, 150 to go: 120 seconds and 30 before them.
+        x = Checks.at("gap 0 9000;ship 4000 10;screw 0 0;slow 0 0 0;wind 0;");
+        Checks.put(x, 2150, 3000, 0, -100);
+        due("150 astern to go", x.off(), 30);
+        x.put(0, 2120);
+        due("120 astern to go", x.off(), 0);
+        x.put(0, 2119);
+        due("119 astern to go", x.off(), NONE);
         // HARM of before does not count.
+        x = Checks.at("gap 0 9000;ship 4000 30;screw 10 0;wheel 0;slow 0 0 0;wind 0;fender 5;");
         Checks.put(x, 6500, 100, 0, 1000, 2000);
         x.go(6);
         due("harmed", x.now(10) > 0 ? 1 : 0, 1);
@@ -136,6 +154,9 @@ public final class TriedTest {
         due("wind(100)", x.wind(100), 0);
         due("wind(300)", x.wind(300), 0);
         due("told(10) as it was", x.told(10), 0);
+        x.put(4, 50);
+        due("99 is the most", x.wind(1), 99);
+        x.put(4, 0);
         x.put(1, 300);
         due("not SAFE at all", x.wind(1), NONE);
         // Too much wind and too little: DRIFT 500 needs between 41 and 59 in 10 seconds.
@@ -193,6 +214,10 @@ public final class TriedTest {
         x = Checks.at("gap 0 9999;ship 4000 10;slow 0 0 0;wind 99;");
         Checks.put(x, 5000, 0);
         due("a storm", x.tug(10), 90);
+        x.put(4, -99);
+        due("99 is the most", x.tug(1), 99);
+        x.put(4, -100);
+        due("100 is too much", x.tug(1), NONE);
         x = Checks.at("gap 0 9999;ship 4000 99;slow 0 0 0;wind 99;");
         Checks.put(x, 5000, 0);
         due("too weak", x.tug(10), NONE);
