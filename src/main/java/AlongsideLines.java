@@ -484,12 +484,33 @@ public final class AlongsideLines {
         private static final int[] NUMBERS_OF = {2, 2, 2, 2, 1, 3, 1, 1, 1, 3, 1};
         private static final int[] TIMES_MOST = {1, 12, 1, 1, 1, 1, 1, 1, 1, 20, 24};
         private static final int[] FIRST_TOLD = {0, -1, 2, 4, 6, 7, 10, 11, 12, -1, -1};
-        // By clause and number, three to a clause.
+        // By clause and number, three to a clause: between which bounds it may be.
         private static final int[] LEAST = {
-            0, 0, 0, 0, 1, 0, 500, 1, 0, 0, 0, 0, 0, 0, 0, 0, 0, 0, 0, 0, 0, 1, 0, 0, 0, 0, 0, 0, 0, 0, 0, 0, 0};
+            0, 0, 0, // gap
+            0, 1, 0, // post
+            500, 1, 0, // ship
+            0, 0, 0, // screw
+            0, 0, 0, // wheel
+            0, 0, 0, // slow
+            0, 0, 0, // wind
+            1, 0, 0, // give
+            0, 0, 0, // fender
+            0, 0, 0, // at
+            0, 0, 0 // hour
+        };
         private static final int[] MOST = {
-            9999, 9999, 0, 9999, 999, 0, 9000, 99, 0, 50, 99, 0, 99, 0, 0, 50, 50, 50, 99, 0, 0, 99, 0, 0,
-            999, 0, 0, 999, 6, 6, 999, 0, 0};
+            9999, 9999, 0, // gap
+            9999, 999, 0, // post
+            9000, 99, 0, // ship
+            50, 99, 0, // screw
+            99, 0, 0, // wheel
+            50, 50, 50, // slow
+            99, 0, 0, // wind
+            99, 0, 0, // give
+            999, 0, 0, // fender
+            999, 6, 6, // at
+            999, 0, 0 // hour
+        };
         // By kind of text: which clauses it may have.
         private static final int[] FIRST_CLAUSE = {0, 9, 10};
         private static final int[] LAST_CLAUSE = {8, 9, 10};
