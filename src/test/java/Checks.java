@@ -2,12 +2,18 @@
 final class Checks {
     private int made;
     private int wrong;
+    private String sentence = "";
+
+    /** The document's sentence that the answers from here on are held against. */
+    void sentence(String words) {
+        sentence = words;
+    }
 
     void due(String call, long got, long want) {
         made++;
         if (got != want) {
             wrong++;
-            System.out.println(call + " answered " + got + ", due is " + want);
+            System.out.println((sentence.isEmpty() ? "" : "[" + sentence + "] ") + call + " answered " + got + ", due is " + want);
         }
     }
 
