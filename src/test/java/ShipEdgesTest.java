@@ -38,6 +38,7 @@ public final class ShipEdgesTest {
         gapAtB();
         gapAtA();
         gapBoth();
+        gapLast();
         farOff();
         safePaces();
         safeAngle();
@@ -639,6 +640,15 @@ public final class ShipEdgesTest {
         // PACE is 0 at B already: HARM comes once.
         nowIs("does not fit, astern", second(close, 3000, 3000, 0, -100), 3000, 3000, 0, 0, 0, 0, 0, 0, 0, 1, 1, 0);
         nowIs("does not fit, astern beyond B", second(close, 3002, 3000, 0, -100), 3000, 3000, 0, 0, 0, 0, 0, 0, 0, 1, 0, 0);
+    }
+
+    private static void gapLast() {
+        sentence("Last the GAP");
+        // The knock is by PACE 1000 at ANGLE 2865: 50 and 550 are 6. Then she comes to B with 10.
+        AlongsideLines x = second(CALM, 7999, 10, 2865, 1000, 550);
+        nowIs("knock and B", x, 7999, 100, 2865, 0, 0, 0, 0, 0, 0, 1, 36 + 100, 1);
+        x = second(CALM, 2000, 10, -2865, -1000, 550);
+        nowIs("knock and A", x, 2000, 100, -2865, 0, 0, 0, 0, 0, 0, 1, 36 + 100, 1);
     }
 
     private static void farOff() {

@@ -451,6 +451,13 @@ public final class TriedEdgesTest {
         due("light: off", x.off(), 120);
         due("light: astern", x.astern(), 0);
         due("light: KNOCKS", x.tried(1, 11), 1);
+        // All else of THE QUAY is as told: a fender of 2 bears a pace of 2, one of 1 does not, whatever G is.
+        for (int fender : new int[] {1, 2}) {
+            x = at("gap 0 9999;ship 4000 10;screw 0 0;wheel 0;slow 0 0 0;wind 0;give 50;fender " + fender + ";", 5000, 0, 0, 0, 299);
+            due("fender " + fender + ": wind", x.wind(1), fender == 2 ? 99 : NONE);
+            due("fender " + fender + ": gap", x.gap(1), fender == 2 ? 4049 : NONE);
+            due("fender " + fender + ": tug", x.tug(1), fender == 2 ? 0 : NONE);
+        }
         // HARM of before now does not count.
         x = at(quay, 5000, 0, 0, 0, 5000);
         x.go(1);
